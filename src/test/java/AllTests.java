@@ -1,0 +1,13 @@
+/** Runs every test of the project; the last line counts. */
+public final class AllTests {
+    private AllTests() {
+    }
+
+    public static void main(String[] args) throws java.io.IOException {
+        ModelTests.run(args.length > 0 ? Integer.parseInt(args[0]) : 300);
+        Due.close();
+        if (Due.failures() != 0) {
+            System.exit(1);
+        }
+    }
+}
