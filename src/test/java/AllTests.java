@@ -3,7 +3,11 @@ public final class AllTests {
     private AllTests() {
     }
 
-    public static void main(String[] args) throws java.io.IOException {
+    public static void main(String[] args) {
+        CommonTests.run();
+        AheadTests.run();
+        KeepTests.run();
+        RuleTests.run();
         ModelTests.run(args.length > 0 ? Integer.parseInt(args[0]) : 300);
         Due.close();
         if (Due.failures() != 0) {
