@@ -178,6 +178,7 @@ final class AheadTests {
         Due.is("21: from another kind none is better", Scenes.of("lover 5; walker 12 0").kindFor(0, 1), 0);
         Scenes.finds("21: no walker is asked for", () -> Scenes.of("cow 1; walker 3 0; walker 4 0"), Scenes.BEYOND,
                 o -> o.kindFor(1, 3));
+        Due.is("21: most days", Scenes.of("bill 8; walker 8 0").kindFor(0, 40), 0);
         for (int[] w : new int[][] {{-1, 0}, {2, 0}, {0, -1}, {0, 41}, {MIN, 0}, {MAX, 0}, {0, MIN}, {0, MAX}}) {
             Scenes.finds("21: wrong", SMALL, Scenes.BEYOND, o -> o.kindFor(w[0], w[1]));
         }
@@ -221,6 +222,13 @@ final class AheadTests {
         Due.is("23: the other one of them", y.giveUp(1, 4), 2);
         y.lead(1, 3, 253);
         Due.is("23: the one of them", y.giveUp(1, 4), 1);
+        // Both found by a search: 3 would do, too, and is less, but has more of them; 1 and 4 would do.
+        Due.is("23: the fewest, not the least", Scenes.of("cow 1; child 13; cow 0; walker 6 2 pace 2 cares 7;"
+                + "walker 7 0 pace 1 cares 0; walker 3 0 pace 1 cares 4; walker 15 1 pace 2 cares 4;"
+                + "turn 0 1 0; turn 1 0 2; turn 2 0 2; turn 3 2 2; turn 4 1 0; turn 5 3 1").giveUp(0, 13), 4);
+        Due.is("23: of several the least", Scenes.of("steeple 0; steeple 10; thing 2; walker 10 0 pace 1 cares 6;"
+                + "walker 10 2 pace 2 cares 5; walker 3 2 pace 1 cares 4; walker 3 0 pace 5 cares 7;"
+                + "turn 0 0 0; turn 1 1 0; turn 2 0 0; turn 3 2 1; turn 4 3 2; turn 5 1 1").giveUp(3, 8), 1);
         Scenes.finds("23: nowhere", () -> Scenes.of("steeple 10; walker 0 3 cares 255"), Scenes.NONE,
                 o -> o.giveUp(0, 20));
         wrongWalker("23: giveUp", (o, w, n) -> o.giveUp(w, n), 20);

@@ -231,6 +231,8 @@ final class CommonTests {
         behind("thing 5; walker 9 5; turn 5 0 0", 5, 0, 9, 0, 0, 0);
         behind("thing 5; walker 9 5; turn 5 0 0", 6, 0, 9, 0, 0, 1);
         behind("thing 5; walker 9 5; turn 5 0 0", 12, 0, 9, 0, 0, 0);
+        behind("cow 1; cow 1; cow 1; cow 1; cow 1; cow 1; cow 1; cow 1; walker 0 7; walker 0 7; walker 12 7;"
+                + "turn 0 2 7", 1, 2, 13, 0, 1, 128);
         behind("inn 5; walker 3 0 cares 1", 1, 0, 4, 0, 1, 1);
         behind("inn 5; walker 3 0 cares 1; turn 0 0 0; turn 1 0 0", 1, 0, 5, 1, 0, 0);
         CarelessMist x = Scenes.of("inn 5; walker 3 5 cares 1");
@@ -339,6 +341,8 @@ final class CommonTests {
         Due.is("13: nobody sees it", y.now(7), 1);
         Due.is("13: no walkers", Scenes.of("cow 4; cow 4; inn 15").now(7), 7);
         Due.is("13: cells", Scenes.of("cow 4; cow 4; inn 15").now(6), 1 << 4 | 1 << 15);
+        Due.is("13: for what the first cares", Scenes.of("cow 4; walker 4 0 cares 1; walker 9 0").now(4), 1);
+        Due.is("13: the first one's cell", Scenes.of("cow 4; walker 4 0; walker 9 0").now(5), 1 << 4 | 1 << 9);
         Due.is("13: the walker's own cell", Scenes.of("bill 4; walker 4 0").now(3), 1);
         for (int what : new int[] {-1, 8, MIN, MAX}) {
             Scenes.finds("13: now(" + what + ")", () -> Scenes.of("cow 1; walker 3 0"), Scenes.BEYOND,

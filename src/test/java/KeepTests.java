@@ -114,6 +114,7 @@ final class KeepTests {
 
     private static void promise31ends() {
         reads("cow1", 1);
+        reads("cow 0", 1);
         reads("  cow   1  ", 1);
         reads("cow1;cow2", 2);
         reads(" cow 1 ; cow 2 ", 2);
@@ -144,6 +145,10 @@ final class KeepTests {
         reads(" cows 1", -2);
         reads("co 1", -1);
         reads("con 1", -1);
+        reads("xow 1", -1);
+        reads("ow 1", -1);
+        reads("cowz 1", -1);
+        reads("acow 1", -1);
         reads("cowcow 1", -1);
         reads("pace 1", -1);
         reads("cares 1", -1);
@@ -204,6 +209,13 @@ final class KeepTests {
     }
 
     private static void promise31changesNothing() {
+        CarelessMist again = new CarelessMist();
+        Due.is("31: a long word", Scenes.text(again, "walkers"), -1);
+        Due.is("31: a shorter one then", Scenes.text(again, "walker"), -7);
+        Due.is("31: a long number", Scenes.text(again, "cow 156"), -5);
+        Due.is("31: a shorter one then", Scenes.text(again, "cow 15"), 1);
+        Due.is("31: a word of 120", Scenes.text(again, "w".repeat(120)), -1);
+        Due.is("31: a number to byte 120", Scenes.text(again, "cow " + "0".repeat(116)), 1);
         Supplier<CarelessMist> six = () -> Scenes.of("cow 1; cow 1; cow 1; cow 1; cow 1; cow 1;"
                 + "walker 2 0; walker 2 0; walker 2 0; walker 2 0; walker 2 0");
         CarelessMist x = six.get();
@@ -487,6 +499,22 @@ final class KeepTests {
         z.go(1);
         z.image();
         Due.is("39: again", z.undo(), 5);
+        CarelessMist w = Scenes.of("");
+        w.image();
+        w.thing(5, 5);
+        w.walker(5, 5);
+        w.change(0, 2, 70);
+        for (int what = 0; what < 6; what++) {
+            w.lead(0, what, 5);
+        }
+        w.undo();
+        w.thing(4, 4);
+        w.walker(4, 4);
+        int[] fresh = {4, 4, 2, 0, 0, 0};
+        for (int what = 0; what < 6; what++) {
+            Due.is("40: a new walker is new, " + what, w.ofWalker(0, what), fresh[what]);
+        }
+        Due.is("40: a new thing is new", 100 * w.of(0, 0) + 10 * w.of(0, 1) + w.of(0, 2), 440);
         CarelessMist empty = new CarelessMist();
         empty.image();
         empty.thing(1, 1);
