@@ -388,7 +388,12 @@ public final class CarelessMist {
         if (!common.hasWalker(walker) || !common.hasThing(thing) || !within(n, 0, 15) || !within(what, 0, 1)) {
             return told(BEYOND);
         }
-        int seeing = common.cellsInSight(walker, thing);
+        trial.become(common);
+        int seeing = 0;
+        for (int cell = 0; cell < CELLS; cell++) {
+            trial.walkers[walker][CELL] = cell;
+            seeing += trial.canSee(walker, thing) ? 1 : 0;
+        }
         int all = CELLS;
         while (all > 1 && seeing % 2 == 0) {
             seeing /= 2;
@@ -624,7 +629,9 @@ public final class CarelessMist {
     private int gotWith(int walker, int what, int v, int n) {
         trial.become(common);
         trial.walkers[walker][what] = v;
-        tryDays(n);
+        for (int d = 0; d < n; d++) {
+            trial.passDay();
+        }
         return trial.walkers[walker][GOT];
     }
 
@@ -815,18 +822,11 @@ public final class CarelessMist {
             return z >>> 8;
         }
 
-        boolean caresFor(int w, int t) {
-            return (walkers[w][CARES] >> t & 1) == 1;
-        }
-
-        /** How far off a walker sees a thing. */
-        int sightOf(int w, int t) {
-            int[] row = things[t];
-            return caresFor(w, t) ? Kinds.dim(row[KIND], row[MET], day) : Kinds.clear(row[KIND]);
-        }
-
         boolean canSee(int w, int t) {
-            return Math.abs(walkers[w][CELL] - things[t][PLACE]) <= sightOf(w, t);
+            int[] row = things[t];
+            boolean cares = (walkers[w][CARES] >> t & 1) == 1;
+            int sight = cares ? Kinds.dim(row[KIND], row[MET], day) : Kinds.clear(row[KIND]);
+            return Math.abs(walkers[w][CELL] - row[PLACE]) <= sight;
         }
 
         /** Whether a walker sees a thing or stands beside one that does. */
@@ -842,8 +842,9 @@ public final class CarelessMist {
         void passDay() {
             takeTurn(list[day % TURNS]);
             for (int w = 0; w < walkerCount; w++) {
-                if (hasThing(walkers[w][AIM])) {
-                    walk(w, walkers[w][AIM]);
+                int aim = walkers[w][AIM];
+                if (hasThing(aim)) {
+                    walk(walkers[w], aim, findsWay(w, aim));
                 }
             }
             for (int t = 0; t < thingCount; t++) {
@@ -861,9 +862,8 @@ public final class CarelessMist {
             }
         }
 
-        void walk(int w, int t) {
-            int[] row = walkers[w];
-            if (findsWay(w, t)) {
+        void walk(int[] row, int t, boolean findsWay) {
+            if (findsWay) {
                 int way = things[t][PLACE] - row[CELL];
                 row[CELL] += Math.max(-row[PACE], Math.min(row[PACE], way));
             } else {
@@ -948,18 +948,6 @@ public final class CarelessMist {
                 }
             }
             return set;
-        }
-
-        /** From how many cells a walker would see a thing. */
-        int cellsInSight(int w, int t) {
-            int sight = sightOf(w, t);
-            int cells = 0;
-            for (int cell = 0; cell < CELLS; cell++) {
-                if (Math.abs(cell - things[t][PLACE]) <= sight) {
-                    cells++;
-                }
-            }
-            return cells;
         }
 
         int heldSpots() {
@@ -1165,30 +1153,22 @@ public final class CarelessMist {
                 next++;
             }
             start = next;
+            number = 0;
             if (next >= length) {
                 token = END;
             } else if (isLetter(bytes[next])) {
-                stepOverWord();
+                token = WORD;
+                while (next < length && isLetter(bytes[next])) {
+                    next++;
+                }
             } else if (isDigit(bytes[next])) {
-                stepOverNumber();
+                token = NUMBER;
+                while (next < length && isDigit(bytes[next])) {
+                    number = Math.min(10 * number + bytes[next] - '0', TOO_MUCH);
+                    next++;
+                }
             } else {
                 token = bytes[next] == ';' ? SEMICOLON : NO_TOKEN;
-                next++;
-            }
-        }
-
-        private void stepOverWord() {
-            token = WORD;
-            while (next < length && isLetter(bytes[next])) {
-                next++;
-            }
-        }
-
-        private void stepOverNumber() {
-            token = NUMBER;
-            number = 0;
-            while (next < length && isDigit(bytes[next])) {
-                number = Math.min(10 * number + bytes[next] - '0', TOO_MUCH);
                 next++;
             }
         }
