@@ -178,6 +178,11 @@ final class AheadTests {
         Due.is("21: from another kind none is better", Scenes.of("lover 5; walker 12 0").kindFor(0, 1), 0);
         Scenes.finds("21: no walker is asked for", () -> Scenes.of("cow 1; walker 3 0; walker 4 0"), Scenes.BEYOND,
                 o -> o.kindFor(1, 3));
+        CarelessMist inn = Scenes.of("thing 8; walker 6 7 cares 1; walker 3 7 pace 5");
+        inn.go(1);
+        inn.lead(0, 1, 0);
+        inn.lead(1, 1, 0);
+        Due.is("21: an inn on an odd day", inn.kindFor(0, 1), 6);
         Due.is("21: most days", Scenes.of("bill 8; walker 8 0").kindFor(0, 40), 0);
         for (int[] w : new int[][] {{-1, 0}, {2, 0}, {0, -1}, {0, 41}, {MIN, 0}, {MAX, 0}, {0, MIN}, {0, MAX}}) {
             Scenes.finds("21: wrong", SMALL, Scenes.BEYOND, o -> o.kindFor(w[0], w[1]));
