@@ -9,19 +9,19 @@ final class AheadTests {
             + "walker 13 3 pace 2 cares 14; walker 3 1 pace 3 cares 22; walker 12 3 pace 5 cares 54; turn 0 3 3;"
             + "turn 1 0 2; turn 2 2 1; turn 3 1 4; turn 4 3 3; turn 5 1 1";
     // A search over made commons found these two: the first day is the last that counts, or one too late.
-    private static final String SPIES_200 = "steeple 2; lover 6; bill 6; inn 8; lover 11; lover 3; inn 12; thing 7;"
+    static final String SPIES_200 = "steeple 2; lover 6; bill 6; inn 8; lover 11; lover 3; inn 12; thing 7;"
             + "walker 13 7 pace 2 cares 156; walker 9 6 pace 2 cares 191; walker 8 6 pace 3 cares 90;"
             + "walker 11 0 pace 3 cares 45; walker 8 0 pace 4 cares 29; walker 12 5 pace 1 cares 71;"
             + "turn 0 4 7; turn 1 1 0; turn 2 3 0; turn 3 5 0; turn 4 1 6; turn 5 3 4";
-    private static final String SPIES_201 = "bill 14; cow 11; thing 4; inn 13; bill 14; child 6; steeple 13;"
+    static final String SPIES_201 = "bill 14; cow 11; thing 4; inn 13; bill 14; child 6; steeple 13;"
             + "walker 3 5 pace 2 cares 234; walker 11 3 pace 1 cares 130; walker 7 1 pace 2 cares 130;"
             + "walker 2 2 pace 3 cares 140;"
             + "turn 0 1 0; turn 1 2 1; turn 2 0 3; turn 3 2 2; turn 4 0 4; turn 5 1 6";
-    private static final String MEET_200 = "child 15; cow 7; lover 6; lover 12; walker 8 0 pace 5 cares 54;"
+    static final String MEET_200 = "child 15; cow 7; lover 6; lover 12; walker 8 0 pace 5 cares 54;"
             + "walker 4 0 pace 5 cares 103; walker 0 3 pace 3 cares 23; walker 1 0 pace 1 cares 201;"
             + "walker 5 1 pace 5 cares 249; walker 0 3 pace 5 cares 161;"
             + "turn 0 3 2; turn 1 4 2; turn 2 3 3; turn 3 5 2; turn 4 3 0; turn 5 1 2";
-    private static final String MEET_201 = "child 13; steeple 4; inn 6; cow 6; lover 9; child 14;"
+    static final String MEET_201 = "child 13; steeple 4; inn 6; cow 6; lover 9; child 14;"
             + "walker 8 5 pace 5 cares 249; walker 11 4 pace 2 cares 123; walker 6 0 pace 5 cares 129;"
             + "walker 7 0 pace 1 cares 81; walker 5 5 pace 3 cares 233; walker 12 3 pace 3 cares 7;"
             + "turn 0 2 1; turn 1 4 2; turn 2 3 5; turn 3 3 0; turn 4 1 0; turn 5 3 4";
@@ -240,12 +240,12 @@ final class AheadTests {
     }
 
     /** Found by a search over made commons. */
-    private static CarelessMist givingUpTwo() {
+    static CarelessMist givingUpTwo() {
         return Scenes.of("bill 2; steeple 12; steeple 9; walker 6 0 pace 4 cares 156; walker 5 1 pace 2 cares 255;"
                 + "turn 0 0 1; turn 1 0 1; turn 2 1 1; turn 3 1 2; turn 4 1 1; turn 5 1 1");
     }
 
-    private static CarelessMist withSheet(String items, int... numbers) {
+    static CarelessMist withSheet(String items, int... numbers) {
         CarelessMist x = Scenes.of(items);
         x.sheet(2, 16, numbers.length);
         for (int i = 0; i < numbers.length; i++) {

@@ -7,6 +7,12 @@ public final class AllTests {
         CommonTests.run();
         AheadTests.run();
         KeepTests.run();
+        TermsEdges.run();
+        TextEdges.run();
+        CommonEdges.run();
+        AheadEdges.run();
+        KeepEdges.run();
+        Doc.close();
         RuleTests.run();
         ModelTests.run(args.length > 0 ? Integer.parseInt(args[0]) : 300);
         Due.close();

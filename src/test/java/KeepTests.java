@@ -324,7 +324,7 @@ final class KeepTests {
     }
 
     /** Sheet 0 is 1, 2, 3, 4, 5 of 8 bits, 1 three numbers of 8 bits, 2 one of 16 bits; 3 is missing. */
-    private static CarelessMist sheets() {
+    static CarelessMist sheets() {
         CarelessMist x = Scenes.of("walker 1 0; walker 2 0; walker 3 0; walker 4 0; walker 5 0");
         x.sheet(0, 8, 5);
         x.sheet(1, 8, 3);
@@ -361,7 +361,7 @@ final class KeepTests {
     }
 
     /** What walkers 0 to 4 care for when a sheet is loaded. */
-    private static void holds(String what, CarelessMist x, int s, int... due) {
+    static void holds(String what, CarelessMist x, int s, int... due) {
         for (int w = 0; w < 5; w++) {
             x.lead(w, 3, 99);
         }

@@ -51,24 +51,10 @@ final class Scenes {
         return x.text();
     }
 
-    /** All that can be asked of an object but status(); the asking spoils it. */
+    /** All that can be asked of an object but status(), also of what it keeps; the asking spoils it. */
     static List<Integer> stateOf(CarelessMist x) {
         List<Integer> all = new ArrayList<>();
-        for (int what = 0; what < 8; what++) {
-            all.add(x.count(what));
-            for (int t = 0; t < 8 && what < 3; t++) {
-                all.add(x.of(t, what));
-            }
-            for (int w = 0; w < 6 && what < 6; w++) {
-                all.add(x.ofWalker(w, what));
-            }
-        }
-        for (int i = 0; i < 6; i++) {
-            all.add(x.listed(i));
-        }
-        for (int spot = 0; spot < 10; spot++) {
-            all.add(x.as(spot, 0));
-        }
+        addCommon(all, x);
         while (x.count(2) < 6) {
             x.walker(0, 0);
         }
@@ -78,8 +64,54 @@ final class Scenes {
                 all.add(x.ofWalker(w, 3));
             }
         }
+        addSheets(all, x);
+        all.add(x.text());
+        all.add(x.undo());
+        addCommon(all, x);
         all.add(x.tear());
         return all;
+    }
+
+    private static void addCommon(List<Integer> all, CarelessMist x) {
+        for (int what = 0; what < 8; what++) {
+            all.add(x.count(what));
+        }
+        for (int t = 0; t < x.count(1); t++) {
+            all.add(x.of(t, 0));
+            all.add(x.of(t, 1));
+            all.add(x.of(t, 2));
+        }
+        for (int w = 0; w < x.count(2); w++) {
+            for (int what = 0; what < 6; what++) {
+                all.add(x.ofWalker(w, what));
+            }
+        }
+        for (int i = 0; i < 6; i++) {
+            all.add(x.listed(i));
+        }
+        for (int spot = 0; spot < 10; spot++) {
+            all.add(x.as(spot, 0));
+        }
+    }
+
+    /** Of how many numbers and of how many bits the sheets are; sheet 3 is spoilt by measuring the others' bits. */
+    private static void addSheets(List<Integer> all, CarelessMist x) {
+        for (int s = 0; s < 4; s++) {
+            int size = 0;
+            for (int step = 32; step > 0; step /= 2) {
+                size += x.copy(s, 0, s, 0, size + step) >= 0 ? step : 0;
+            }
+            all.add(size);
+        }
+        for (int s = 0; s < 3; s++) {
+            all.add(x.copy(s, 0, 3, 0, 0));
+        }
+        for (int bits = 8; bits <= 32; bits *= 2) {
+            x.sheet(3, bits, 0);
+            for (int s = 0; s < 3; s++) {
+                all.add(x.copy(s, 0, 3, 0, 0));
+            }
+        }
     }
 
     /** The call answers that finding, counts it alone, and changes nothing else. */
