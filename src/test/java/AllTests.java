@@ -14,6 +14,7 @@ public final class AllTests {
         KeepEdges.run();
         Doc.close();
         RuleTests.run();
+        ReadmeTests.run();
         ModelTests.run(args.length > 0 ? Integer.parseInt(args[0]) : 300);
         Due.close();
         if (Due.failures() != 0) {
